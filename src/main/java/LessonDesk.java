@@ -783,7 +783,7 @@ public final class LessonDesk {
         }
 
         int leadOf(int best, int[] marks) {
-            int next = Integer.MIN_VALUE;
+            int next = pointsAt(best == 0 ? 1 : 0, marks);
             for (int place = 0; place < ORDER.length; place++) {
                 if (place != best) {
                     next = Math.max(next, pointsAt(place, marks));

@@ -10,6 +10,7 @@ public final class LearnersTest {
         guesses();
         counts();
         strange();
+        allFull();
         hints();
         Check.end();
     }
@@ -51,6 +52,7 @@ public final class LearnersTest {
         Check.fill(desk, 0, 2, 7, 52, 17, 45, 9, 3, 6, 9, 3, 1000);
         Check.due("two answers", desk.answers(0, 0, 2, 1, 2), 2);
         Check.due("one is right", desk.count(0, 2), 1);
+        Check.due("FAULT 0 gives both", desk.points(0, 1), 15);
         Check.due("no answers", desk.answers(0, 0, 2, 0, 0), 2);
         Check.due("no answers from the end on", desk.answers(0, 0, 2, 10, 0), 2);
         Check.due("one is not as told", desk.answers(0, 0, 2, 1, 3), LessonDesk.NOT);
@@ -147,14 +149,24 @@ public final class LearnersTest {
         Check.due("of like ones the first", desk.guess(0), 0);
         Check.due("like ones", desk.lead(0), 0);
         desk.set(2, 5);
-        // 45 is given by FAULT 0 and FAULT 1, 62 by FAULT 0 and by FAULT 1, too.
+        // 45 is given by FAULT 0 and by FAULT 1.
         desk.answer(0, 52, 17, 45);
         Check.due("two give it", desk.lead(0), 0);
         Check.due("the first of them", desk.guess(0), 1);
-        // 57 less 99 .. can't be: the tens part them, 304 less 199 is 295 by FAULT 0, 215 by FAULT 1.
+        // The tens part them: 304 less 199 is 295 by FAULT 0, 215 by FAULT 1.
         desk.answer(0, 304, 199, 215);
         Check.due("FAULT 1", desk.guess(0), 2);
         Check.due("ahead of FAULTS 1 and 2 ..", desk.lead(0), 5);
+        // Where a SET of one FAULT is the best, the right way may be the next.
+        desk.set(0, 2);
+        desk.set(1, 0);
+        desk.set(2, 3);
+        desk.answer(1, 52, 17, 45);
+        desk.answer(1, 304, 199, 215);
+        Check.due("FAULT 1 by a little", desk.guess(1), 2);
+        Check.due("ahead of the right way", desk.lead(1), 1);
+        desk.aside(1, 0, true);
+        desk.aside(1, 1, true);
         Check.due("another's", desk.guess(1), 0);
         Check.due("no learner", desk.guess(2), LessonDesk.BAD);
         Check.due("no learner", desk.lead(2), LessonDesk.BAD);
@@ -163,14 +175,15 @@ public final class LearnersTest {
 
     private static void counts() {
         LessonDesk desk = withLearners(2);
+        desk.answer(0, 9, 3, 779);
         desk.answer(0, 52, 17, 35);
         desk.answer(0, 52, 17, 45);
         desk.answer(0, 9, 3, 777);
         desk.answer(0, 9, 3, 778);
         desk.answer(0, 10, 10, 0);
-        desk.aside(0, 2, true);
-        desk.aside(0, 4, true);
-        int[] want = {5, 2, 1, 1};
+        desk.aside(0, 3, true);
+        desk.aside(0, 5, true);
+        int[] want = {6, 2, 1, 2};
         for (int what = 0; what < 4; what++) {
             Check.due("count " + what, desk.count(0, what), want[what]);
             Check.due("count of another", desk.count(1, what), 0);
@@ -208,9 +221,38 @@ public final class LearnersTest {
         isStrange(desk, 1, 80, 5, 999);
         desk.aside(2, 1, false);
         isStrange(desk, 2, 90, 3, 777);
+        for (int i = 0; i < 3; i++) {
+            desk.answer(0, 999, 999, 999);
+            isStrange(desk, i < 2 ? 2 : 3, i < 2 ? 90 : 999, i < 2 ? 3 : 999, i < 2 ? 777 : 999);
+        }
+        for (int i = 0; i < 3; i++) {
+            desk.answer(1, 999, 0, 1);
+        }
+        isStrange(desk, 3, 999, 0, 1);
         Check.due("what 4", desk.strange(4), LessonDesk.BAD);
         Check.due("what -1", desk.strange(-1), LessonDesk.BAD);
         Check.due("BAD first", new LessonDesk().strange(4), LessonDesk.BAD);
+    }
+
+    /** 12 LEARNERS with 40 STRANGE ANSWERS each: nothing is beyond any row. */
+    private static void allFull() {
+        LessonDesk desk = withLearners(12);
+        desk.sheet(0, 1, 30);
+        for (int item = 0; item < 10; item++) {
+            desk.item(0, 1, 3 * item, 9);
+            desk.item(0, 1, 3 * item + 2, 700 + item);
+        }
+        for (int who = 0; who < 12; who++) {
+            for (int i = 1; i <= 4; i++) {
+                Check.due("answers", desk.answers(who, 0, 1, 0, 10), 10 * i);
+            }
+            Check.due("all strange", desk.count(who, 3), 40);
+        }
+        isStrange(desk, 48, 9, 0, 700);
+        Check.due("skills for all", Check.skills(desk, "a=1/1"), 1);
+        Check.due("the last one's", desk.exercise(11, 0, 9999, true), 16);
+        Check.due("skills anew", Check.skills(desk, "a=1/1"), 1);
+        Check.due("forgotten", desk.exercise(11, 0, 0, true), 16);
     }
 
     private static void hint(LessonDesk desk, int much, int less, int written, int many, int want) {
@@ -246,5 +288,10 @@ public final class LearnersTest {
         hint(desk, 700, 1, 0, -1, LessonDesk.BAD);
         hint(desk, 700, 701, 0, 0, LessonDesk.BAD);
         hint(desk, 801, 196, 5, 1, 0);
+        hint(desk, 800, 206, 94, 2, LessonDesk.OPEN);
+        hint(desk, 800, 206, 94, 2, 5);
+        hint(desk, 999, 0, 99, 2, LessonDesk.OPEN);
+        hint(desk, 999, 0, 99, 2, 9);
+        hint(desk, 999, 0, 9, 1, 9);
     }
 }

@@ -17,7 +17,7 @@ public final class SkillsTest {
     private static void tape() {
         LessonDesk desk = new LessonDesk();
         Check.due("n 0", desk.type(65, 0), LessonDesk.BAD);
-        Check.due("n 9", desk.type(65, 9), LessonDesk.BAD);
+        Check.due("n 9", desk.type(0x4141414141414141L, 9), LessonDesk.BAD);
         Check.due("a byte 31", desk.type(31, 1), LessonDesk.BAD);
         Check.due("a byte 127", desk.type(127, 1), LessonDesk.BAD);
         Check.due("a byte 200", desk.type(200, 1), LessonDesk.BAD);
@@ -54,6 +54,13 @@ public final class SkillsTest {
         text(" b = 2 / 3 ; a = 4 / 5 : b , b ", 2);
         text("a=1/1;b=1/1;c=1/1;d=1/1;e=1/1;f=1/1;g=1/1;h=1/1:a,b,c,d,e,f,g", 8);
         text("a=05/009", 1);
+        // THE TAPE is full to its last byte.
+        text("a=5/9" + " ".repeat(95), 1);
+        text(" ".repeat(95) + "a=5/9", 1);
+        text(" ".repeat(100), -120);
+        text("a=5/" + " ".repeat(96), -120);
+        text("b=1/1;a=5/9:" + "b,".repeat(43) + "b ", 2);
+        text("b=1/1;a=5/9:" + "b,".repeat(44), -120);
     }
 
     private static void faults() {
@@ -241,6 +248,12 @@ public final class SkillsTest {
         way(desk, 0, 4, 2, 10, 3);
         way(desk, 0, 6, 6, 20, 6);
         way(desk, 0, 7, 6, 20, 6);
+        Check.skills(desk, "a=1/1");
+        way(desk, 0, 1, 1, 1, 1);
+        Check.skills(desk, "h=5/1;a=1/50:h");
+        way(desk, 0, 4, 0, 0, 0);
+        way(desk, 0, 5, 128, 1, 5);
+        way(desk, 0, 6, 129, 51, 6);
         Check.due("day -1", desk.way(0, -1, 10, 0), LessonDesk.BAD);
         Check.due("day 10000", desk.way(0, 10000, 10, 0), LessonDesk.BAD);
         Check.due("hours -1", desk.way(0, 0, -1, 0), LessonDesk.BAD);
@@ -263,6 +276,7 @@ public final class SkillsTest {
         way(desk, 58, 6, 6, 28, 6);
         way(desk, 59, 4, 1, 10, 3);
         way(desk, 59, 7, 3, 30, 7);
+        Check.due("ahead of the latest of a", desk.way(0, 49, 4, 0), LessonDesk.NOT);
         // b is held while a is not: c may be learnt.
         desk.exercise(0, 1, 59, true);
         way(desk, 60, 4, 1, 10, 3);
@@ -271,5 +285,13 @@ public final class SkillsTest {
         Check.due("ahead of the latest of any", desk.way(0, 58, 4, 0), LessonDesk.NOT);
         Check.due("BAD first", desk.way(0, 58, 161, 0), LessonDesk.BAD);
         Check.due("another's days", desk.way(1, 0, 3, 0), 1);
+        // 1000 times 512 by 1025 is 499: no longer held.
+        for (int i = 0; i < 6; i++) {
+            desk.exercise(1, 0, 0, true);
+        }
+        Check.due("500", desk.odds(1, 0, 512), 500);
+        Check.due("499", desk.odds(1, 0, 513), 499);
+        Check.due("held", desk.way(1, 512, 3, 0), 0);
+        Check.due("not held", desk.way(1, 513, 3, 0), 1);
     }
 }
