@@ -167,6 +167,12 @@ public final class LearnersTest {
         Check.due("ahead of the right way", desk.lead(1), 1);
         desk.aside(1, 0, true);
         desk.aside(1, 1, true);
+        desk.answer(1, 304, 199, 295);
+        desk.answer(1, 52, 17, 45);
+        Check.due("FAULT 0", desk.guess(1), 1);
+        Check.due("ahead of the right way", desk.lead(1), 1);
+        desk.aside(1, 2, true);
+        desk.aside(1, 3, true);
         Check.due("another's", desk.guess(1), 0);
         Check.due("no learner", desk.guess(2), LessonDesk.BAD);
         Check.due("no learner", desk.lead(2), LessonDesk.BAD);
