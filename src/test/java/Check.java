@@ -2,15 +2,25 @@
 final class Check {
     private static int checks = 0;
     private static int wrong = 0;
+    private static String about = "";
 
     private Check() {
+    }
+
+    /** What the next checks are about: told ahead of each that is wrong. */
+    static void about(String words) {
+        about = words.isEmpty() ? "" : "[" + words + "] ";
+    }
+
+    static int checks() {
+        return checks;
     }
 
     static void due(String call, long got, long want) {
         checks++;
         if (got != want) {
             wrong++;
-            System.out.println(call + " answered " + got + ", due is " + want);
+            System.out.println(about + call + " answered " + got + ", due is " + want);
         }
     }
 
