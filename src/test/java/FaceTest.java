@@ -2,7 +2,11 @@ import java.lang.reflect.Constructor;
 import java.lang.reflect.Field;
 import java.lang.reflect.Method;
 import java.lang.reflect.Modifier;
+import java.nio.file.Files;
+import java.nio.file.Path;
 import java.util.TreeSet;
+import java.util.regex.Matcher;
+import java.util.regex.Pattern;
 
 /** The public face, and promise 1: a new object. */
 public final class FaceTest {
@@ -23,6 +27,7 @@ public final class FaceTest {
     public static void main(String[] args) throws Exception {
         methods();
         constants();
+        asWritten();
         newObject();
         twoObjects();
         Check.end();
@@ -75,6 +80,34 @@ public final class FaceTest {
         }
         TreeSet<String> want = new TreeSet<>(java.util.List.of(CONSTANTS));
         Check.due("constants " + got + " are " + want, got.equals(want));
+    }
+
+    /** The face as the document writes it, with its names, its order and the words ahead of its parts. */
+    private static void asWritten() throws Exception {
+        Path root = Path.of(System.getProperty("root", "."));
+        String document = Files.readString(root.resolve("../shared/DOC.md"));
+        String source = Files.readString(root.resolve("src/main/java/LessonDesk.java"));
+        Matcher heads = Pattern.compile("(?m)^ *(public [^=;]*\\));$").matcher(document);
+        int found = 0;
+        int last = -1;
+        while (heads.find()) {
+            int at = source.indexOf("    " + heads.group(1) + " {\n");
+            Check.due(heads.group(1) + " stands behind the one ahead of it", at > last);
+            last = at;
+            found++;
+        }
+        Check.due("the constructor and all methods", found, 1 + METHODS.length);
+        Matcher parts = Pattern.compile("Ahead of the calls (.*) the interface says: (---- .*)\\.").matcher(document);
+        int calls = 0;
+        while (parts.find()) {
+            for (String name : parts.group(1).replace("`", "").split(", ")) {
+                int at = source.indexOf("    public int " + name + "(");
+                int words = source.lastIndexOf("    // ----", Math.max(at, 0));
+                Check.due(parts.group(2) + " is ahead of " + name, words >= 0 && source.startsWith("    // " + parts.group(2) + "\n", words));
+                calls++;
+            }
+        }
+        Check.due("calls with words ahead", calls, METHODS.length);
     }
 
     private static void newObject() {
